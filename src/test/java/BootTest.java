@@ -15,6 +15,7 @@ public final class BootTest {
         headerPlaces();
         rooms();
         other();
+        again();
         unchanged();
         Due.end();
     }
@@ -205,13 +206,32 @@ public final class BootTest {
         due("F without room", with("K=X\nF=K", Image.kernel(40, 0, 0, 0, 0)), ChainLoader.NO_ROOM);
         due("no F", with("K=N"), ChainLoader.BAD_HEADER);
         due("no K", with("F=K"), ChainLoader.BAD_SETTINGS);
+    }
+
+    private static void rewrite(ChainLoader x, String text) {
+        byte[] bytes = text.getBytes(StandardCharsets.ISO_8859_1);
+        for (int k = 0; k < bytes.length; k++) {
+            x.poke(new Image().place(10) + k, bytes[k], 1);
+        }
+        x.poke(new Image().entryPlace(2, 0) + 6, bytes.length, 2);
+    }
+
+    /** Settings that were read before say nothing any more. */
+    private static void again() {
         ChainLoader x = with("K=X\nF=K").loader();
         Due.due("boot() with F", x.boot(), OTHER);
-        byte[] text = "K=X\n#=K".getBytes(StandardCharsets.ISO_8859_1);
-        for (int k = 0; k < text.length; k++) {
-            x.poke(new Image().place(10) + k, text[k], 1);
-        }
+        rewrite(x, "K=X\n#=K");
         Due.due("boot() when F is gone", x.boot(), ChainLoader.ABSENT);
+        rewrite(x, "K=K\n#=K");
+        Due.due("boot() with K", x.boot(), LOADED);
+        rewrite(x, "#=K\nF=K");
+        Due.due("boot() when K is gone", x.boot(), ChainLoader.BAD_SETTINGS);
+        rewrite(x, "K=K\nF=K");
+        Due.due("boot() with both", x.boot(), LOADED);
+        rewrite(x, "K=K\nF");
+        Due.due("boot() when the last line lost its =", x.boot(), ChainLoader.BAD_SETTINGS);
+        rewrite(x, "K=KX");
+        Due.due("boot() with another K", x.boot(), ChainLoader.ABSENT);
     }
 
     private static void unchanged() {

@@ -96,6 +96,8 @@ public final class ListTest {
         due("below a file", image.loader("F/X"), 0, ChainLoader.NOT_DIRECTORY);
         due("its chain broken", image.loader("D"), 0, ChainLoader.BROKEN);
         due("its chain broken, no such entry", image.loader("D"), -1, ChainLoader.BROKEN);
+        due("from cluster 0", new Image().entry(2, 0, "D", Image.DIRECTORY, 0, 0).loader("D"), 0, ChainLoader.BROKEN);
+        due("from cluster 1", new Image().entry(2, 0, "D", Image.DIRECTORY, 1, 0).loader("D"), 0, ChainLoader.BROKEN);
         due("below a broken chain", image.loader("D/X"), 0, ChainLoader.BROKEN);
         due("not broken", image.chain(3).loader("D"), 0, name("G"));
         due("root broken", image.link(2, 0).loader(), 0, ChainLoader.BROKEN);

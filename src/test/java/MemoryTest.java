@@ -7,6 +7,7 @@ public final class MemoryTest {
         whole();
         information();
         arguments();
+        behindTheFile();
         clearedBefore();
         stays();
         Due.end();
@@ -97,6 +98,22 @@ public final class MemoryTest {
         dueArguments("K=K\nA=123456789012345678901234", "123456789012345678901234");
         dueArguments("K=K\nA=\r", "\r");
         dueArguments("K=K\na=z", "");
+    }
+
+    /** What lies behind a file in its chain is not loaded. */
+    private static void behindTheFile() {
+        int[] sizes = {33, 63, 64, 65, 95, 96};
+        for (int size : sizes) {
+            Image image = with("K=K", new byte[0]);
+            for (int at = image.place(20); at < image.place(23); at++) {
+                image.put(at, 77);
+            }
+            image.file(2, 1, "K", Image.kernel(size, 0, 0, 500, 500), 20, 21, 22);
+            ChainLoader x = booted(image, 0);
+            Due.due("the last byte of " + size, x.memory(500 + size - 1), (size - 1) * 7 + 1 & 255);
+            Due.due("the byte behind " + size, x.memory(500 + size), 0);
+            Due.due("the byte before", x.memory(499), 0);
+        }
     }
 
     private static void clearedBefore() {

@@ -44,6 +44,10 @@ public final class ReadTest {
             ChainLoader x = new Image().entry(2, 0, "F", Image.FILE, first, 0).loader("F");
             Due.due("read(0) of no bytes from " + first, x.read(0), ChainLoader.BAD);
         }
+        ChainLoader x = new Image().text(2, 0, "F", "AB", 3).entry(2, 1, "E", Image.FILE, 3, 0).loader("F");
+        Due.due("read(0)", x.read(0), 'A');
+        Image.type(x, "E");
+        Due.due("read(0) of no bytes behind a file", x.read(0), ChainLoader.BAD);
     }
 
     private static void due(String what, Image image, int i, int want) {

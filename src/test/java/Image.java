@@ -38,6 +38,17 @@ final class Image {
         return new Image(1, 63, 1, 1, 2, 4);
     }
 
+    /** Three volumes of 1, 2 and 3 clusters, so that their number tells which record was taken. */
+    static Image threeVolumes() {
+        Image image = new Image(1, 3, 1, 1, 1, 1);
+        for (int k = 1; k < 3; k++) {
+            image.record(k, 128, 12, 10 * k, 3 + k);
+            image.put(320 * k, 235, 1, 1, 1, 1, 2);
+            image.sign(10 * k);
+        }
+        return image;
+    }
+
     Image put(int at, int... values) {
         for (int k = 0; k < values.length; k++) {
             bytes[at + k] = (byte) values[k];

@@ -39,28 +39,17 @@ public final class VolumeTest {
         due("fewer sectors", new Image().record(0, 128, 12, 1, 20), 15);
     }
 
-    /** Three volumes of 1, 2 and 3 clusters, so that the answer tells which record was taken. */
-    private static Image three() {
-        Image image = new Image(1, 3, 1, 1, 1, 1);
-        for (int k = 1; k < 3; k++) {
-            image.record(k, 128, 12, 10 * k, 3 + k);
-            image.put(320 * k, 235, 1, 1, 1, 1, 2);
-            image.sign(10 * k);
-        }
-        return image;
-    }
-
     private static void choice() {
-        due("all active", three(), 1);
-        due("1 and 2 active", three().put(6, 0), 2);
-        due("2 active", three().put(6, 0).put(14, 0), 3);
-        due("none active", three().put(6, 0).put(14, 0).put(22, 0), 1);
-        due("127, 129 and 255 are not active", three().put(6, 127).put(14, 129).put(22, 255), 1);
-        due("0 active, not usable", three().put(7, 11).put(14, 0), 3);
-        due("0 active, not usable, none else active", three().put(7, 11).put(14, 0).put(22, 0), 2);
-        due("only 2 usable", three().put(7, 11).put(15, 0).put(22, 0), 3);
-        due("no record usable", three().put(7, 11).put(15, 0).put(23, 1), ChainLoader.NO_PARTITION);
-        due("the first one is bad, the next is not asked", three().put(32, 0), ChainLoader.BAD_VOLUME);
+        due("all active", Image.threeVolumes(), 1);
+        due("1 and 2 active", Image.threeVolumes().put(6, 0), 2);
+        due("2 active", Image.threeVolumes().put(6, 0).put(14, 0), 3);
+        due("none active", Image.threeVolumes().put(6, 0).put(14, 0).put(22, 0), 1);
+        due("127, 129 and 255 are not active", Image.threeVolumes().put(6, 127).put(14, 129).put(22, 255), 1);
+        due("0 active, not usable", Image.threeVolumes().put(7, 11).put(14, 0), 3);
+        due("0 active, not usable, none else active", Image.threeVolumes().put(7, 11).put(14, 0).put(22, 0), 2);
+        due("only 2 usable", Image.threeVolumes().put(7, 11).put(15, 0).put(22, 0), 3);
+        due("no record usable", Image.threeVolumes().put(7, 11).put(15, 0).put(23, 1), ChainLoader.NO_PARTITION);
+        due("the first one is bad, the next is not asked", Image.threeVolumes().put(32, 0), ChainLoader.BAD_VOLUME);
     }
 
     private static void fields() {
